@@ -27,10 +27,25 @@ final class Promise17RestoreTest {
             x.write(t, t % 2);
         }
         x.pass(9);
+        readStaleAndLose(x);
         x.there(2, 1);
         x.read(2, 3);
         x.there(2, 0);
         x.write(3, 1);
+    }
+
+    private static void readStaleAndLose(PromiseHours x) {
+        x.rule(0, 9);
+        x.there(4, 1);
+        x.skew(4, -20);
+        x.read(4, 10);
+        x.pass(6);
+        x.write(10, 0);
+        due.is("STALE", x.read(4, 10), 1);
+        int lost = x.reader(4, 7);
+        x.skew(4, 0);
+        x.read(4, 10);
+        due.is("lost", x.reader(4, 7), lost + 1);
     }
 
     private static void allIsAsItWas() {
