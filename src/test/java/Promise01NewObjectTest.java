@@ -14,6 +14,8 @@ final class Promise01NewObjectTest {
         due.is("restore(0)", x.restore(0), PromiseHours.STATE);
         due.is("restore(1)", x.restore(1), PromiseHours.STATE);
         objectsShareNothing();
+        noImageIsKept();
+        theFirstTickIsOneMore();
         due.end();
     }
 
@@ -64,5 +66,22 @@ final class Promise01NewObjectTest {
         PromiseHours used = Scenes.busy();
         used.image(0);
         due.same("calls on another object", fresh, new PromiseHours());
+    }
+
+    private static void noImageIsKept() {
+        PromiseHours x = new PromiseHours();
+        int[] before = Told.all(x);
+        for (int k = -1; k <= 2; k++) {
+            boolean named = k == 0 || k == 1;
+            due.is("restore(" + k + ")", x.restore(k), named ? PromiseHours.STATE : PromiseHours.OUTSIDE);
+        }
+        due.same("restore of nothing", before, x);
+    }
+
+    private static void theFirstTickIsOneMore() {
+        PromiseHours x = new PromiseHours();
+        due.is("TICK", x.count(0), 0);
+        x.pass(1);
+        due.is("TICK", x.count(0), 1);
     }
 }

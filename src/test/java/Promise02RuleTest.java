@@ -7,6 +7,9 @@ final class Promise02RuleTest {
         termsAndPromisesStay();
         newNumbersHoldFromNowOn();
         refusesWhatIsOutside();
+        takesEveryNumberOfItsRange();
+        eachRangeIsItsOwn();
+        allElseStays();
         due.end();
     }
 
@@ -60,5 +63,50 @@ final class Promise02RuleTest {
             due.is(call, x.rule(c[0], c[1]), PromiseHours.OUTSIDE);
             due.same(call, before, x);
         }
+    }
+
+    /** "LONG is 1 to 200 (40 at first), SHORT 1 to 100 (10), DOUBT 0 to 9 (1), KEEP 0 to 500 (100)" */
+    private static void takesEveryNumberOfItsRange() {
+        int[][] ranges = {{1, 200, 40}, {1, 100, 10}, {0, 9, 1}, {0, 500, 100}};
+        for (int what = 0; what < ranges.length; what++) {
+            PromiseHours x = new PromiseHours();
+            int was = ranges[what][2];
+            for (int n = ranges[what][0] - 2; n <= ranges[what][1] + 2; n++) {
+                boolean taken = n >= ranges[what][0] && n <= ranges[what][1];
+                String call = "rule(" + what + ", " + n + ")";
+                due.is(call, x.rule(what, n), taken ? was : PromiseHours.OUTSIDE);
+                was = taken ? n : was;
+                due.is(call + ": count", x.count(10 + what), was);
+            }
+        }
+    }
+
+    private static void eachRangeIsItsOwn() {
+        PromiseHours x = new PromiseHours();
+        due.is("LONG 101, too much for SHORT", x.rule(0, 101), 40);
+        due.is("SHORT 101", x.rule(1, 101), PromiseHours.OUTSIDE);
+        due.is("SHORT 10, too much for DOUBT", x.rule(1, 10), 10);
+        due.is("DOUBT 10", x.rule(2, 10), PromiseHours.OUTSIDE);
+        due.is("DOUBT 0, too little for LONG", x.rule(2, 0), 1);
+        due.is("LONG 0", x.rule(0, 0), PromiseHours.OUTSIDE);
+        due.is("KEEP 201, too much for LONG", x.rule(3, 201), 100);
+        due.is("LONG 201", x.rule(0, 201), PromiseHours.OUTSIDE);
+    }
+
+    /** "TERMS and PROMISES stay", and so do WRITES that WAIT, LISTS and counts. */
+    private static void allElseStays() {
+        int[] greatest = {200, 100, 9, 500};
+        int[] least = {1, 1, 0, 0};
+        int[] first = {40, 10, 1, 100};
+        PromiseHours x = Scenes.busy();
+        int[] before = Told.all(x);
+        for (int what = 0; what < 4; what++) {
+            int was = x.count(10 + what);
+            due.is("busy, rule " + what, was, first[what]);
+            x.rule(what, greatest[what]);
+            x.rule(what, least[what]);
+            due.is("rule back", x.rule(what, was), least[what]);
+        }
+        due.same("rules there and back", before, x);
     }
 }

@@ -6,6 +6,9 @@ final class Promise03SkewTest {
         countsThoseBeyondDoubt();
         movesWhatIsOver();
         refusesWrongInputs();
+        takesEveryNumberOfItsRange();
+        countsNoneAndAll();
+        movesNothingButOver();
         due.end();
     }
 
@@ -52,5 +55,49 @@ final class Promise03SkewTest {
             due.is(call, x.skew(c[0], c[1]), c[2]);
             due.same(call, before, x);
         }
+    }
+
+    /** "a SKEW, -20 to 20 (0 at first)"; "how many READERS have one greater than DOUBT, or less than DOUBT below 0" */
+    private static void takesEveryNumberOfItsRange() {
+        for (int doubt = 0; doubt <= 9; doubt++) {
+            for (int reader = 0; reader < Told.READERS; reader++) {
+                PromiseHours x = new PromiseHours();
+                x.rule(2, doubt);
+                int has = 0;
+                for (int n = -22; n <= 22; n++) {
+                    boolean taken = n >= -20 && n <= 20;
+                    int beyond = n > doubt || n < -doubt ? 1 : 0;
+                    due.is("DOUBT " + doubt + ": skew(" + reader + ", " + n + ")",
+                            x.skew(reader, n), taken ? beyond : PromiseHours.OUTSIDE);
+                    has = taken ? n : has;
+                    due.is("DOUBT " + doubt + ": reader(" + reader + ", 1)", x.reader(reader, 1), 100 + has);
+                }
+            }
+        }
+    }
+
+    private static void countsNoneAndAll() {
+        PromiseHours x = new PromiseHours();
+        for (int r = 0; r < Told.READERS; r++) {
+            due.is("as great as DOUBT", x.skew(r, r % 2 == 0 ? 1 : -1), 0);
+        }
+        for (int r = 0; r < Told.READERS; r++) {
+            due.is("beyond DOUBT", x.skew(r, r % 2 == 0 ? 2 : -2), r + 1);
+        }
+        x.rule(2, 2);
+        due.is("the same again, with a greater DOUBT", x.skew(4, 2), 0);
+        x.rule(2, 0);
+        due.is("the same again, with DOUBT 0", x.skew(4, 2), 5);
+    }
+
+    private static void movesNothingButOver() {
+        PromiseHours x = Scenes.busy();
+        int[] before = Told.all(x);
+        x.skew(1, 20);
+        due.is("PROMISE", x.copy(1, 1, 2), 44);
+        due.is("it WAITS", x.thing(1, 1), 1);
+        x.skew(1, -20);
+        x.skew(1, 0);
+        due.same("SKEW there and back", before, x);
     }
 }

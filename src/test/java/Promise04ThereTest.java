@@ -8,6 +8,9 @@ final class Promise04ThereTest {
         doesNothingIfItWasSoBefore();
         sendsNoLetterAtWayZero();
         refusesWrongInputs();
+        twelveWritesAreDoneByOneComingBack();
+        noWriteIsDoneIfNoneWaits();
+        goingAwayIsZero();
         due.end();
     }
 
@@ -76,5 +79,43 @@ final class Promise04ThereTest {
             due.is(call, x.there(c[0], c[1]), c[2]);
             due.same(call, before, x);
         }
+    }
+
+    /** "how many WRITES are DONE by this": none and all. */
+    private static void twelveWritesAreDoneByOneComingBack() {
+        PromiseHours x = new PromiseHours();
+        for (int t = 0; t < Told.THINGS; t++) {
+            x.read(4, t);
+        }
+        x.there(4, 0);
+        for (int t = 0; t < Told.THINGS; t++) {
+            x.write(t, 1);
+        }
+        due.is("all WAIT", x.count(4), 12);
+        due.is("another goes and comes", x.there(0, 0) + x.there(0, 1), 0);
+        due.is("there(4, 1)", x.there(4, 1), 12);
+        due.is("none WAITS", x.count(4), 0);
+        due.is("LETTERS", x.reader(4, 6), 12);
+    }
+
+    private static void noWriteIsDoneIfNoneWaits() {
+        PromiseHours x = new PromiseHours();
+        for (int r = 0; r < Told.READERS; r++) {
+            due.is("there(" + r + ", 1) as at first", x.there(r, 1), 0);
+            due.is("there(" + r + ", 0)", x.there(r, 0), 0);
+            due.is("reader(" + r + ", 0)", x.reader(r, 0), 0);
+            due.is("there(" + r + ", 0) again", x.there(r, 0), 0);
+            due.is("there(" + r + ", 1)", x.there(r, 1), 0);
+            due.is("reader(" + r + ", 0)", x.reader(r, 0), 1);
+        }
+    }
+
+    private static void goingAwayIsZero() {
+        PromiseHours x = Scenes.busy();
+        due.is("there(0, 0) while WRITES WAIT", x.there(0, 0), 0);
+        due.is("WAIT", x.count(4), 2);
+        due.is("there(0, 1), whom no WRITE waits for", x.there(0, 1), 0);
+        due.is("there(3, 1), one of two", x.there(3, 1), 0);
+        due.is("there(1, 1), the other", x.there(1, 1), 1);
     }
 }

@@ -14,6 +14,9 @@ final class Promise05ReadTest {
         losesAllOfTheVolumeBeyondKeep();
         aListOfAnotherVolumeStays();
         refusesTheUnknown();
+        everyReaderReadsEveryThing();
+        aStaleReadIsOfAnotherVersionAlone();
+        asksAtTheTickAtWhichTheWriteIsDone();
         due.end();
     }
 
@@ -193,5 +196,52 @@ final class Promise05ReadTest {
             due.is(call, x.read(c[0], c[1]), PromiseHours.UNKNOWN);
             due.same(call, before, x);
         }
+    }
+
+    private static void everyReaderReadsEveryThing() {
+        PromiseHours x = new PromiseHours();
+        for (int r = 0; r < Told.READERS; r++) {
+            for (int t = 0; t < Told.THINGS; t++) {
+                due.is("read(" + r + ", " + t + ")", x.read(r, t), 2);
+                due.is("read(" + r + ", " + t + ") again", x.read(r, t), 0);
+            }
+            due.is("asked", x.reader(r, 4), 12);
+            due.is("used", x.reader(r, 3), 12);
+        }
+        due.is("RENEWED", x.count(7), 15);
+    }
+
+    /** "if this is not the VERSION of the THING, it is STALE" */
+    private static void aStaleReadIsOfAnotherVersionAlone() {
+        PromiseHours x = new PromiseHours();
+        x.rule(2, 0);
+        x.read(0, 0);
+        x.skew(0, -1);
+        x.write(0, 0);
+        x.pass(9);
+        due.is("the WRITE WAITS", x.read(0, 0), 0);
+        x.pass(1);
+        due.is("the WRITE is DONE", x.read(0, 0), 1);
+        x.write(0, 0);
+        due.is("two VERSIONS behind", x.read(0, 0), 1);
+        due.is("STALE", x.count(1), 2);
+        due.is("VERSION read", x.reader(0, 2), 0);
+        x.pass(1);
+        due.is("OVER", x.read(0, 0), 2);
+        due.is("VERSION read", x.reader(0, 2), 2);
+    }
+
+    /** "If no WRITE of it WAITS, it has a COPY": up to DUE, and from DUE on. */
+    private static void asksAtTheTickAtWhichTheWriteIsDone() {
+        PromiseHours x = new PromiseHours();
+        x.read(0, 0);
+        x.write(0, 0);
+        x.pass(9);
+        due.is("read(1, 0) at 9", x.read(1, 0), 3);
+        due.is("VERSION read", x.reader(1, 2), 0);
+        x.pass(1);
+        due.is("read(1, 0) at 10", x.read(1, 0), 2);
+        due.is("VERSION read", x.reader(1, 2), 1);
+        due.is("COPY", x.copy(1, 0, 0), 1);
     }
 }

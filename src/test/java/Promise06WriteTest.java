@@ -10,6 +10,9 @@ final class Promise06WriteTest {
         doesNotListTwice();
         tellsAWriteAfterItIsDone();
         refusesInOrder();
+        tellsTheLeastAndTheMostTicks();
+        allThingsWaitAndRefuse();
+        anotherWayDoesNotBreakWhatWaits();
         due.end();
     }
 
@@ -111,5 +114,49 @@ final class Promise06WriteTest {
             due.is(call, x.write(c[0], c[1]), c[2]);
             due.same(call, before, x);
         }
+    }
+
+    /** "how many TICKS it is till DUE": no less than 1 if it WAITS, no more than the greatest SHORT. */
+    private static void tellsTheLeastAndTheMostTicks() {
+        PromiseHours x = new PromiseHours();
+        x.rule(0, 200);
+        x.rule(1, 100);
+        x.read(0, 0);
+        due.is("the most", x.write(0, 0), 100);
+        x.read(1, 1);
+        x.pass(99);
+        due.is("the least", x.write(1, 0), 1);
+        due.is("pass(1)", x.pass(1), 2);
+        x.read(2, 2);
+        x.rule(0, 1);
+        x.read(2, 3);
+        due.is("the least by LONG", x.write(3, 0), 1);
+        due.is("it WAITS", x.write(3, 1), PromiseHours.NO);
+    }
+
+    private static void allThingsWaitAndRefuse() {
+        PromiseHours x = Scenes.full();
+        int[] before = Told.all(x);
+        for (int t = 0; t < Told.THINGS; t++) {
+            due.is("DUE of " + t, x.thing(t, 3), 11);
+            due.is("write(" + t + ", 0)", x.write(t, 0), PromiseHours.NO);
+            due.is("write(" + t + ", 1)", x.write(t, 1), PromiseHours.NO);
+        }
+        due.same("refused WRITES", before, x);
+        due.is("told", x.count(2), 12);
+        due.is("pass(10)", x.pass(10), 12);
+        due.is("write(0, 0) after it", x.write(0, 0), 0);
+    }
+
+    /** "NO: a WRITE of this THING WAITS": another way does not change it. */
+    private static void anotherWayDoesNotBreakWhatWaits() {
+        PromiseHours x = new PromiseHours();
+        x.read(0, 0);
+        x.write(0, 0);
+        due.is("write(0, 1)", x.write(0, 1), PromiseHours.NO);
+        due.is("no LETTER", x.count(5), 0);
+        due.is("COPY", x.copy(0, 0, 0), 0);
+        due.is("way", x.thing(0, 2), 0);
+        due.is("a THING beside it", x.write(1, 1), 0);
     }
 }

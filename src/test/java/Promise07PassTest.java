@@ -7,6 +7,9 @@ final class Promise07PassTest {
         settlesAtEachTick();
         manyTicksAreAsOneByOne();
         refusesWhatIsOutside();
+        takesEveryNumberOfItsRange();
+        countsNoneAndAll();
+        theGreatestTickOfAnyUse();
         due.end();
     }
 
@@ -56,5 +59,45 @@ final class Promise07PassTest {
             due.is("pass(" + ticks + ")", x.pass(ticks), PromiseHours.OUTSIDE);
             due.same("pass(" + ticks + ")", before, x);
         }
+    }
+
+    /** "So many TICKS (1 to 100) pass" */
+    private static void takesEveryNumberOfItsRange() {
+        PromiseHours x = new PromiseHours();
+        int tick = 0;
+        for (int n = -2; n <= 102; n++) {
+            boolean taken = n >= 1 && n <= 100;
+            due.is("pass(" + n + ")", x.pass(n), taken ? 0 : PromiseHours.OUTSIDE);
+            tick += taken ? n : 0;
+            due.is("TICK", x.count(0), tick);
+        }
+    }
+
+    /** "how many WRITES were DONE" */
+    private static void countsNoneAndAll() {
+        PromiseHours x = Scenes.full();
+        due.is("pass(9)", x.pass(9), 0);
+        due.is("pass(1)", x.pass(1), 12);
+        due.is("pass(100)", x.pass(100), 0);
+        PromiseHours y = Scenes.full();
+        due.is("pass(100)", y.pass(100), 12);
+        due.is("on LISTS", y.count(6), 60);
+    }
+
+    /** "An object is used for at most 512 calls": the last of them may be at TICK 51,000 and more. */
+    private static void theGreatestTickOfAnyUse() {
+        PromiseHours x = new PromiseHours();
+        for (int i = 0; i < 500; i++) {
+            due.is("pass(100)", x.pass(100), 0);
+        }
+        due.is("read(4, 11)", x.read(4, 11), 2);
+        due.is("TERM", x.copy(4, 11, 1), 50040);
+        due.is("write(11, 0)", x.write(11, 0), 10);
+        due.is("DUE", x.thing(11, 3), 50010);
+        due.is("pass(100)", x.pass(100), 1);
+        due.is("LIST", x.volume(4, 2, 2), 1 << 11);
+        due.is("read(4, 11)", x.read(4, 11), 2);
+        due.is("VERSION", x.copy(4, 11, 0), 1);
+        due.is("TICK", x.count(0), 50100);
     }
 }

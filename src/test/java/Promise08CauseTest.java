@@ -7,6 +7,8 @@ final class Promise08CauseTest {
         tellsEachCause();
         keepsTheLastReadThatUsedNoCopy();
         tellsWhatHeldBeforeTheRead();
+        aLongerRowLeavesNothingBehind();
+        whatIsRefusedOrUsedLeavesThem();
         due.end();
     }
 
@@ -75,5 +77,35 @@ final class Promise08CauseTest {
         x.read(0, 0);
         causes("a COPY that goes by the LIST", x, 2);
         due.is("lost", x.reader(0, 7), 1);
+    }
+
+    private static void aLongerRowLeavesNothingBehind() {
+        PromiseHours x = new PromiseHours();
+        x.there(0, 0);
+        x.read(0, 0);
+        causes("four", x, 1, 2, 3, 4);
+        x.skew(1, -20);
+        x.read(1, 0);
+        causes("one after four", x, 4);
+        x.read(0, 11);
+        causes("four after one", x, 1, 2, 3, 4);
+    }
+
+    private static void whatIsRefusedOrUsedLeavesThem() {
+        PromiseHours x = new PromiseHours();
+        x.read(0, 0);
+        causes("asked", x, 2, 3, 4);
+        x.read(5, 0);
+        x.read(0, -1);
+        x.read(0, 0);
+        x.there(0, 0);
+        x.pass(5);
+        causes("after refused READS and one by a COPY", x, 2, 3, 4);
+        x.skew(0, -9);
+        x.pass(6);
+        x.write(0, 0);
+        x.read(0, 0);
+        due.is("STALE", x.count(1), 1);
+        causes("after a STALE one", x, 2, 3, 4);
     }
 }

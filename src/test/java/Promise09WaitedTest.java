@@ -9,6 +9,9 @@ final class Promise09WaitedTest {
         thePromiseCountsIfLesser();
         onlyWhomItHasToWaitFor();
         keepsTheLastWriteAsItWasTold();
+        fromNoneToAll();
+        aLongerRowLeavesNothingBehind();
+        alikeByPromiseAndByTerm();
         due.end();
     }
 
@@ -95,5 +98,44 @@ final class Promise09WaitedTest {
         x.pass(20);
         x.read(3, 0);
         waited("after it is DONE", x, 0);
+    }
+
+    private static void fromNoneToAll() {
+        for (int holders = 0; holders <= Told.READERS; holders++) {
+            PromiseHours x = new PromiseHours();
+            int[] wants = new int[holders];
+            for (int r = 0; r < holders; r++) {
+                x.read(r, 3);
+                wants[r] = r;
+            }
+            x.write(3, 0);
+            waited(holders + " HOLDERS", x, wants);
+        }
+    }
+
+    private static void aLongerRowLeavesNothingBehind() {
+        PromiseHours x = Scenes.full();
+        waited("five", x, 0, 1, 2, 3, 4);
+        x.there(1, 1);
+        x.pass(10);
+        waited("as it was told, after it is DONE", x, 0, 1, 2, 3, 4);
+        x.read(1, 0);
+        x.write(0, 0);
+        waited("one after five", x, 1);
+        x.write(9, 0);
+        waited("none after one", x);
+    }
+
+    /** "first those for whom the lesser one of the PROMISE and the TERM of the VOLUME was greater, of alike ones the least" */
+    private static void alikeByPromiseAndByTerm() {
+        PromiseHours x = new PromiseHours();
+        int[][] rules = {{12, 50}, {60, 12}, {12, 12}, {13, 14}, {200, 11}};
+        for (int r = Told.READERS - 1; r >= 0; r--) {
+            x.rule(0, rules[r][0]);
+            x.rule(1, rules[r][1]);
+            x.read(r, 7);
+        }
+        due.is("write(7, 0)", x.write(7, 0), 13);
+        waited("12, 12, 12, 13, 11", x, 3, 0, 1, 2, 4);
     }
 }

@@ -7,6 +7,8 @@ final class Promise10ThingTest {
         tellsSetsOfReaders();
         dueMovesWithARenewal();
         refusesWrongInputs();
+        setsAreFull();
+        setsAreOfEachReader();
         due.end();
     }
 
@@ -79,5 +81,26 @@ final class Promise10ThingTest {
             due.is("thing(" + c[0] + ", " + c[1] + ")", x.thing(c[0], c[1]), c[2]);
         }
         due.same("refused calls", before, x);
+    }
+
+    private static void setsAreFull() {
+        PromiseHours x = Scenes.full();
+        for (int t = 0; t < Told.THINGS; t++) {
+            tells("all hold it", x, t, 0, 1, t % 2, 11, 31, 31, 31);
+        }
+        x.pass(10);
+        for (int t = 0; t < Told.THINGS; t++) {
+            tells("all have old COPIES", x, t, 1, 0, PromiseHours.NONE, PromiseHours.NONE, 0, 31, 0);
+        }
+    }
+
+    private static void setsAreOfEachReader() {
+        for (int r = 0; r < Told.READERS; r++) {
+            PromiseHours x = new PromiseHours();
+            x.read(r, 6);
+            tells("READER " + r, x, 6, 0, 0, PromiseHours.NONE, PromiseHours.NONE, 1 << r, 1 << r, 1 << r);
+            tells("the THING before", x, 5, 0, 0, PromiseHours.NONE, PromiseHours.NONE, 0, 0, 0);
+            tells("the THING after", x, 7, 0, 0, PromiseHours.NONE, PromiseHours.NONE, 0, 0, 0);
+        }
     }
 }

@@ -6,6 +6,8 @@ final class Promise11CopyTest {
         tellsOfACopy();
         tellsApartTermAndPromise();
         refusesWrongInputs();
+        copiesOfAllByAll();
+        aCopyOfVersionZeroIsACopy();
         due.end();
     }
 
@@ -59,5 +61,34 @@ final class Promise11CopyTest {
             due.is("copy(" + c[0] + ", " + c[1] + ", " + c[2] + ")", x.copy(c[0], c[1], c[2]), c[3]);
         }
         due.same("refused calls", before, x);
+    }
+
+    private static void copiesOfAllByAll() {
+        PromiseHours x = Scenes.full();
+        for (int r = 0; r < Told.READERS; r++) {
+            for (int t = 0; t < Told.THINGS; t++) {
+                tells("full", x, r, t, 0, 41, 41, 1);
+            }
+        }
+        x.pass(10);
+        for (int r = 0; r < Told.READERS; r++) {
+            for (int t = 0; t < Told.THINGS; t++) {
+                tells("all on LISTS", x, r, t, 0, 41, 0, 0);
+            }
+        }
+    }
+
+    /** "the VERSION of its COPY (what = 0; NONE)": VERSION 0 is not NONE. */
+    private static void aCopyOfVersionZeroIsACopy() {
+        PromiseHours x = new PromiseHours();
+        tells("none", x, 4, 11, PromiseHours.NONE, 0, 0, 0);
+        x.read(4, 11);
+        tells("VERSION 0", x, 4, 11, 0, 40, 40, 1);
+        for (int i = 0; i < 100; i++) {
+            x.write(11, 1);
+        }
+        tells("none again", x, 4, 11, PromiseHours.NONE, 0, 0, 0);
+        x.read(4, 11);
+        tells("VERSION 100", x, 4, 11, 100, 40, 40, 1);
     }
 }

@@ -7,6 +7,8 @@ final class Promise12VolumeTest {
         tellsWhetherItIsOver();
         tellsTheList();
         refusesWrongInputs();
+        listsAreEmptyAndFull();
+        aListHasEachThingAsItsBit();
         due.end();
     }
 
@@ -68,5 +70,39 @@ final class Promise12VolumeTest {
             due.is("volume(" + c[0] + ", " + c[1] + ", " + c[2] + ")", x.volume(c[0], c[1], c[2]), c[3]);
         }
         due.same("refused calls", before, x);
+    }
+
+    private static void listsAreEmptyAndFull() {
+        PromiseHours x = Scenes.full();
+        for (int r = 0; r < Told.READERS; r++) {
+            for (int v = 0; v < Told.VOLUMES; v++) {
+                due.is("LIST, empty", x.volume(r, v, 2), 0);
+                due.is("TERM", x.volume(r, v, 0), 11);
+            }
+        }
+        x.pass(10);
+        for (int r = 0; r < Told.READERS; r++) {
+            for (int v = 0; v < Told.VOLUMES; v++) {
+                due.is("LIST, full", x.volume(r, v, 2), 15 << 4 * v);
+                due.is("OVER", x.volume(r, v, 1), 1);
+            }
+        }
+        x.there(3, 1);
+        x.read(3, 5);
+        due.is("LIST, after it is RENEWED", x.volume(3, 1, 2), 0);
+        due.is("LIST of another VOLUME", x.volume(3, 2, 2), 0xf00);
+        due.is("LIST of another READER", x.volume(2, 1, 2), 0x0f0);
+    }
+
+    private static void aListHasEachThingAsItsBit() {
+        for (int t = 0; t < Told.THINGS; t++) {
+            PromiseHours x = new PromiseHours();
+            x.read(0, t);
+            x.pass(10);
+            x.write(t, 0);
+            for (int v = 0; v < Told.VOLUMES; v++) {
+                due.is("LIST of " + v + " with " + t, x.volume(0, v, 2), v == t / 4 ? 1 << t : 0);
+            }
+        }
     }
 }

@@ -6,6 +6,10 @@ final class Promise13ReaderTest {
         tellsEachNumber();
         theLastVersionIsOfTheLastRead();
         refusesWrongInputs();
+        skewsAreToldWithAHundred();
+        noneWasReadIfAllWasNothing();
+        countsFullLists();
+        losesOnlyCopiesThatItHas();
         due.end();
     }
 
@@ -72,5 +76,55 @@ final class Promise13ReaderTest {
             due.is("reader(" + c[0] + ", " + c[1] + ")", x.reader(c[0], c[1]), c[2]);
         }
         due.same("refused calls", before, x);
+    }
+
+    private static void skewsAreToldWithAHundred() {
+        PromiseHours x = new PromiseHours();
+        int[] skews = {-20, -1, 0, 1, 20};
+        for (int r = 0; r < Told.READERS; r++) {
+            x.skew(r, skews[r]);
+        }
+        for (int r = 0; r < Told.READERS; r++) {
+            tells("SKEW", x, r, 1, 100 + skews[r]);
+        }
+    }
+
+    /** "the VERSION that it read last (2; NONE)" */
+    private static void noneWasReadIfAllWasNothing() {
+        PromiseHours x = new PromiseHours();
+        x.there(0, 0);
+        x.read(0, 0);
+        tells("nothing", x, 0, 0, 100, PromiseHours.NONE, 0, 0, 1, 0, 0);
+        x.there(0, 1);
+        x.read(0, 0);
+        tells("VERSION 0", x, 0, 1, 100, 0, 0, 1, 1, 0, 0);
+    }
+
+    private static void countsFullLists() {
+        PromiseHours x = Scenes.full();
+        x.pass(10);
+        x.there(4, 1);
+        for (int v = 0; v < Told.VOLUMES; v++) {
+            x.read(4, 4 * v);
+            due.is("lost with VOLUME " + v, x.reader(4, 7), 4 * (v + 1));
+        }
+        tells("all lost", x, 4, 1, 100, 1, 0, 15, 0, 0, 12);
+        tells("another", x, 3, 0, 100, 0, 0, 12, 0, 0, 0);
+    }
+
+    /** "lost a COPY by a LIST": beyond KEEP all of the VOLUME goes, but there may be no COPY of it. */
+    private static void losesOnlyCopiesThatItHas() {
+        PromiseHours x = new PromiseHours();
+        x.rule(3, 0);
+        x.read(4, 8);
+        x.pass(11);
+        x.write(8, 0);
+        x.read(4, 9);
+        due.is("one of four", x.reader(4, 7), 1);
+        x.read(4, 10);
+        x.pass(11);
+        x.write(10, 0);
+        x.read(4, 8);
+        due.is("two of four", x.reader(4, 7), 3);
     }
 }

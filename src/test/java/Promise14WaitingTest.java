@@ -5,6 +5,9 @@ final class Promise14WaitingTest {
     public static void main(String[] args) {
         tellsThemAsTheyCame();
         allThingsMayWait();
+        noneAtEveryWrongPlace();
+        whatIsDoneAtOnceNeverWaits();
+        theFirstTheLastAndTheMiddleGo();
         due.end();
     }
 
@@ -58,5 +61,44 @@ final class Promise14WaitingTest {
         waiting("all", x, 11, 10, 9, 8, 7, 6, 5, 4, 3, 2, 1, 0);
         due.is("pass(10)", x.pass(10), 12);
         waiting("none", x);
+    }
+
+    /** "NONE: there is none such (i below 0, too)" */
+    private static void noneAtEveryWrongPlace() {
+        PromiseHours x = Scenes.full();
+        waiting("full", x, 11, 10, 9, 8, 7, 6, 5, 4, 3, 2, 1, 0);
+        for (int i : Edges.beyond(0, 11)) {
+            due.is("full: waiting(" + i + ")", x.waiting(i), PromiseHours.NONE);
+        }
+        x.pass(100);
+        for (int i : Edges.around(0, 11)) {
+            due.is("empty: waiting(" + i + ")", x.waiting(i), PromiseHours.NONE);
+        }
+    }
+
+    private static void whatIsDoneAtOnceNeverWaits() {
+        PromiseHours x = new PromiseHours();
+        x.write(3, 0);
+        waiting("DONE", x);
+        x.read(0, 4);
+        x.write(4, 0);
+        x.write(3, 1);
+        waiting("one WAITS, one is DONE", x, 4);
+    }
+
+    private static void theFirstTheLastAndTheMiddleGo() {
+        for (int early = 0; early < 3; early++) {
+            PromiseHours x = new PromiseHours();
+            for (int t = 0; t < 3; t++) {
+                x.rule(0, t == early ? 4 : 8);
+                x.read(t, t);
+            }
+            x.write(2, 0);
+            x.write(0, 0);
+            x.write(1, 0);
+            waiting("three", x, 2, 0, 1);
+            x.pass(4);
+            waiting("without " + early, x, early == 2 ? 0 : 2, early == 1 ? 0 : 1);
+        }
     }
 }

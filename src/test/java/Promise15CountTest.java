@@ -6,6 +6,9 @@ final class Promise15CountTest {
         tellsEachNumber();
         tellsImagesAndRules();
         refusesWhatIsOutside();
+        countsWhatIsFull();
+        imagesAreEverySet();
+        nineIsNoNumber();
         due.end();
     }
 
@@ -64,5 +67,42 @@ final class Promise15CountTest {
             due.is("count(" + what + ")", x.count(what), PromiseHours.OUTSIDE);
         }
         due.same("refused calls", before, x);
+    }
+
+    private static void countsWhatIsFull() {
+        PromiseHours x = Scenes.full();
+        tells("all WAIT", x, 1, 0, 12, 0, 12, 0, 0, 15, 0);
+        x.pass(10);
+        tells("all DONE by LISTS", x, 11, 0, 12, 12, 0, 0, 60, 15, 0);
+        PromiseHours y = Scenes.full();
+        for (int r = 0; r < Told.READERS; r++) {
+            y.there(r, 1);
+        }
+        tells("six DONE by LETTERS", y, 1, 0, 12, 6, 6, 30, 0, 15, 0);
+    }
+
+    /** "which IMAGES are kept, a set (8)" */
+    private static void imagesAreEverySet() {
+        for (int set = 0; set < 4; set++) {
+            PromiseHours x = new PromiseHours();
+            for (int k = 0; k < 2; k++) {
+                if ((set & 1 << k) != 0) {
+                    x.image(k);
+                    x.image(k);
+                }
+            }
+            x.image(2);
+            x.image(-1);
+            due.is("IMAGES", x.count(8), set);
+        }
+    }
+
+    private static void nineIsNoNumber() {
+        PromiseHours x = Scenes.full();
+        x.image(0);
+        x.image(1);
+        due.is("count(8)", x.count(8), 3);
+        due.is("count(9)", x.count(9), PromiseHours.OUTSIDE);
+        due.is("count(10)", x.count(10), 40);
     }
 }

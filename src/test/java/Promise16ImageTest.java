@@ -6,6 +6,8 @@ final class Promise16ImageTest {
         keepsAndChangesNothingElse();
         takesThePlaceOfWhatWasKept();
         refusesWhatIsOutside();
+        bothImagesAreKeptApart();
+        anImageOfANewObject();
         due.end();
     }
 
@@ -45,5 +47,28 @@ final class Promise16ImageTest {
         }
         x.restore(1);
         due.is("TICK in 1", x.count(0), 7);
+    }
+
+    private static void bothImagesAreKeptApart() {
+        PromiseHours x = Scenes.full();
+        due.is("image(0)", x.image(0), 1);
+        due.is("image(1)", x.image(1), 1);
+        int[] full = Told.all(x);
+        x.pass(10);
+        due.is("image(1)", x.image(1), 1);
+        int[] past = Told.all(x);
+        x.restore(0);
+        due.same("restore(0)", full, x);
+        x.restore(1);
+        due.same("restore(1)", past, x);
+    }
+
+    private static void anImageOfANewObject() {
+        PromiseHours x = new PromiseHours();
+        due.is("image(1)", x.image(1), 1);
+        due.is("IMAGES", x.count(8), 2);
+        due.is("restore(0)", x.restore(0), PromiseHours.STATE);
+        due.is("restore(1)", x.restore(1), 1);
+        due.is("TICK", x.count(0), 0);
     }
 }

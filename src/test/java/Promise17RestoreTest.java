@@ -9,6 +9,9 @@ final class Promise17RestoreTest {
         imagesAreNotOfTheImage();
         aNewStateReplacesABusyOne();
         refusesInOrder();
+        aFullStateIsRestoredIntoANewOne();
+        restoringTwiceIsAsOnce();
+        anImageOfARestoredState();
         due.end();
     }
 
@@ -118,5 +121,57 @@ final class Promise17RestoreTest {
         }
         x.image(1);
         due.is("restore(0) with only 1 kept", x.restore(0), PromiseHours.STATE);
+    }
+
+    private static void aFullStateIsRestoredIntoANewOne() {
+        PromiseHours x = new PromiseHours();
+        x.image(0);
+        for (int r = 0; r < Told.READERS; r++) {
+            for (int t = 0; t < Told.THINGS; t++) {
+                x.read(r, t);
+            }
+        }
+        for (int t = 0; t < Told.THINGS; t++) {
+            x.write(t, 0);
+        }
+        x.image(1);
+        int[] full = Told.all(x);
+        x.restore(0);
+        due.is("WAIT", x.count(4), 0);
+        due.is("waiting(0)", x.waiting(0), PromiseHours.NONE);
+        due.is("waited(0)", x.waited(0), PromiseHours.NONE);
+        due.is("cause(0)", x.cause(0), PromiseHours.NONE);
+        x.restore(1);
+        due.same("restore(1)", full, x);
+        due.is("pass(10)", x.pass(10), 12);
+    }
+
+    /** "the IMAGE stays" */
+    private static void restoringTwiceIsAsOnce() {
+        PromiseHours x = Scenes.full();
+        x.image(1);
+        int[] before = Told.all(x);
+        due.is("restore(1)", x.restore(1), 1);
+        due.is("restore(1)", x.restore(1), 1);
+        due.same("restore(1) twice", before, x);
+        x.pass(50);
+        due.is("restore(0)", x.restore(0), PromiseHours.STATE);
+        due.is("TICK", x.count(0), 51);
+        due.is("restore(1)", x.restore(1), 1);
+        due.same("restore(1)", before, x);
+    }
+
+    private static void anImageOfARestoredState() {
+        PromiseHours x = Scenes.busy();
+        x.image(0);
+        x.image(1);
+        int[] before = Told.all(x);
+        x.pass(20);
+        x.restore(0);
+        x.image(1);
+        x.pass(20);
+        x.image(0);
+        x.restore(1);
+        due.same("restore(1) of what 0 kept", before, x);
     }
 }

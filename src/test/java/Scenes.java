@@ -32,4 +32,31 @@ final class Scenes {
         x.write(1, 1);
         return x;
     }
+
+    /**
+     * TICK 1. All READERS hold all THINGS, and a WRITE of each THING WAITS for
+     * all of them, by way 0 of the even ones, 1 of the others, told from 11 down;
+     * all READERS are away.
+     */
+    static PromiseHours full() {
+        PromiseHours x = new PromiseHours();
+        x.pass(1);
+        for (int r = 0; r < Told.READERS; r++) {
+            for (int t = 0; t < Told.THINGS; t++) {
+                x.read(r, t);
+            }
+            x.there(r, 0);
+        }
+        for (int t = Told.THINGS - 1; t >= 0; t--) {
+            x.write(t, t % 2);
+        }
+        return x;
+    }
+
+    /** TICKS pass to this one, if it is not past. */
+    static void passTo(PromiseHours x, int tick) {
+        for (int left = tick - x.count(0); left > 0; left -= 100) {
+            x.pass(Math.min(100, left));
+        }
+    }
 }
